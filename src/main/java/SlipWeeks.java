@@ -21,6 +21,9 @@ public final class SlipWeeks {
     private static final int ROWS = 495;
     private static final int TRIPLES = 220;
     private static final int PAIRS = 66;
+    // How many pairs, and how many triples, have all their numbers below a number.
+    private static final int[] PAIRS_BELOW = {0, 0, 1, 3, 6, 10, 15, 21, 28, 36, 45, 55};
+    private static final int[] TRIPLES_BELOW = {0, 0, 0, 1, 4, 10, 20, 35, 56, 84, 120, 165};
     private static final int LEAST_RANK = 2;
 
     private static final int KINDS = 8;
@@ -132,7 +135,7 @@ public final class SlipWeeks {
             return tell(BEYOND);
         }
         crowd.settle();
-        return crowd.likingOf(people, place);
+        return crowd.likingOf(state.kinds[people], state.manys[people], place);
     }
 
     public int crossed(int people, int place) {
@@ -140,7 +143,7 @@ public final class SlipWeeks {
             return tell(BEYOND);
         }
         crowd.settle();
-        return people == -1 ? crowd.crosses[place] : crowd.crossesBy(people, place);
+        return people == -1 ? crowd.crosses[place] : crowd.crossesBy(state.kinds[people], state.manys[people], place);
     }
 
     public int buys(int place, int n) {
@@ -682,8 +685,9 @@ public final class SlipWeeks {
             int at = weekCount * BOOK_CELLS;
             long pot = potWithIn(rule[POT], crowd.total);
             long left = pot;
+            crowd.tellWinners(draw);
             for (int rank = IN_A_ROW; rank >= LEAST_RANK; rank--) {
-                int winners = crowd.winnersBy(draw, rank);
+                int winners = crowd.byRank[rank];
                 long each = winners > 0 ? rankPart(rank, pot) / winners : 0;
                 left -= each * winners;
                 cells[at + 5 - rank] = winners;
@@ -894,7 +898,7 @@ public final class SlipWeeks {
             this.state = state;
         }
 
-        int say(int row, int packed) {
+        int say(int row, int packed, int latest) {
             if (!state.hasLiking()) {
                 return 1;
             }
@@ -903,7 +907,7 @@ public final class SlipWeeks {
                 int cell = state.code[i];
                 if (cell >= 0 || cell <= LikingReader.FIRST_NAME) {
                     if (top < TAPE_LIMIT) {
-                        stack[top] = cell >= 0 ? cell : named(LikingReader.FIRST_NAME - cell, row, packed);
+                        stack[top] = cell >= 0 ? cell : named(LikingReader.FIRST_NAME - cell, row, packed, latest);
                         top++;
                     }
                 } else {
@@ -937,7 +941,7 @@ public final class SlipWeeks {
             return at + 1;
         }
 
-        private int named(int name, int row, int packed) {
+        private int named(int name, int row, int packed, int latest) {
             switch (name) {
                 case 0:
                     return (packed & 15) + (packed >> 4 & 15) + (packed >> 8 & 15) + (packed >> 12 & 15);
@@ -950,7 +954,7 @@ public final class SlipWeeks {
                 case 4:
                     return longestChain(row);
                 case 5:
-                    return Integer.bitCount(row & state.latestDraw());
+                    return Integer.bitCount(row & latest);
                 default:
                     return state.weekCount;
             }
@@ -985,7 +989,9 @@ public final class SlipWeeks {
         private final int[] threes = new int[ROWS];
         private final int[] twos = new int[ROWS];
         final int[] crosses = new int[ROWS];
+        final int[] byRank = new int[IN_A_ROW + 1];
         int total;
+        private int latest;
         private boolean settled;
         private boolean winnersSettled;
 
@@ -1005,12 +1011,14 @@ public final class SlipWeeks {
             if (settled) {
                 return;
             }
+            latest = state.latestDraw();
             for (int p = 0; p < ROWS; p++) {
-                said[p] = voice.say(slip.bits[p], slip.packed[p]);
+                said[p] = voice.say(slip.bits[p], slip.packed[p], latest);
             }
             Arrays.fill(crosses, 0);
             for (int g = 0; g < state.groups && g < PEOPLE_LIMIT; g++) {
-                addCrossesOf(g);
+                int all = likeAll(state.kinds[g], state.manys[g]);
+                addCrosses(state.manys[g], all);
             }
             for (int i = 0; i < state.boughtRows && i < BOUGHT_ROWS; i++) {
                 if (isPlace(state.boughtPlaces[i])) {
@@ -1043,78 +1051,74 @@ public final class SlipWeeks {
 
         /** Winners of a rank by the draw that has a place; settleWinners goes ahead. */
         int winnersAt(int rank, int drawPlace) {
-            if (!isPlace(drawPlace)) {
+            if (drawPlace < 0 || drawPlace >= ROWS) {
                 return 0;
             }
-            switch (rank) {
-                case 4:
-                    return crosses[drawPlace];
-                case 3:
-                    return threes[drawPlace];
-                default:
-                    return twos[drawPlace];
-            }
+            return rank == 4 ? crosses[drawPlace] : rank == 3 ? threes[drawPlace] : twos[drawPlace];
         }
 
-        int winnersBy(int draw, int rank) {
-            int all = 0;
+        /** Puts the winners by one draw into byRank; settle goes ahead. */
+        void tellWinners(int draw) {
+            Arrays.fill(byRank, 0);
             for (int p = 0; p < ROWS; p++) {
-                if (Integer.bitCount(slip.bits[p] & draw) == rank) {
-                    all += crosses[p];
+                int rank = Integer.bitCount(slip.bits[p] & draw);
+                if (rank <= IN_A_ROW) {
+                    byRank[rank] += crosses[p];
                 }
             }
-            return all;
         }
 
-        int likingOf(int group, int place) {
-            if (!within(group, 0, PEOPLE_LIMIT - 1) || !isPlace(place)) {
+        int likingOf(int kind, int many, int place) {
+            if (place < 0 || place >= ROWS) {
                 return 0;
             }
             int row = slip.bits[place];
-            int born = said[place] + 2 * Integer.bitCount(row & BELOW_SIX);
-            int sought = 1 + Integer.bitCount(row & FROM_EIGHT);
-            switch (state.kinds[group]) {
+            switch (kind) {
                 case 0:
                     return said[place];
                 case 1:
-                    return born;
+                    return said[place] + born(row);
                 case 2:
                     return said[place] + (Slip.inOneLine(row) ? 20 : 0) + (Slip.hasColumn(row) ? 10 : 0);
                 case 3:
                     return 1;
                 case 4:
-                    return said[place] + 3 * Integer.bitCount(row & state.latestDraw());
+                    return said[place] + 3 * Integer.bitCount(row & latest);
                 case 5:
-                    return (row & SEVEN) != 0 ? 2 * born : born;
+                    return (said[place] + born(row)) * ((row & SEVEN) != 0 ? 2 : 1);
                 case 6:
-                    return sought;
+                    return 1 + Integer.bitCount(row & FROM_EIGHT);
                 default:
-                    return place < state.manys[group] ? sought : 0;
+                    return place < many ? 1 + Integer.bitCount(row & FROM_EIGHT) : 0;
             }
         }
 
-        int crossesBy(int group, int place) {
-            int all = likeAll(group);
-            if (all <= 0 || !within(group, 0, PEOPLE_LIMIT - 1) || !isPlace(place)) {
+        private static int born(int row) {
+            return 2 * Integer.bitCount(row & BELOW_SIX);
+        }
+
+        int crossesBy(int kind, int many, int place) {
+            int all = likeAll(kind, many);
+            if (all <= 0 || place < 0 || place >= ROWS) {
                 return 0;
             }
-            return state.manys[group] * liked[place] / all;
+            return many * liked[place] / all;
         }
 
-        private void addCrossesOf(int group) {
-            int all = likeAll(group);
-            if (all <= 0 || !within(group, 0, PEOPLE_LIMIT - 1)) {
+        private void addCrosses(int many, int all) {
+            if (all <= 0) {
                 return;
             }
             for (int p = 0; p < ROWS; p++) {
-                crosses[p] += state.manys[group] * liked[p] / all;
+                crosses[p] += many * liked[p] / all;
             }
         }
 
-        private int likeAll(int group) {
+        /** Puts what people like each row into liked: all together. */
+        private int likeAll(int kind, int many) {
             int all = 0;
             for (int p = 0; p < ROWS; p++) {
-                liked[p] = likingOf(group, p);
+                liked[p] = likingOf(kind, many, p);
                 all += liked[p];
             }
             return all;
@@ -1124,12 +1128,12 @@ public final class SlipWeeks {
     /**
      * Sums a value of each row over the rows that have just so many numbers in common with one.
      * To ask every row about every other takes 245025 looks; by the sums over the rows that hold
-     * a pair or a triple it takes ten a row.
+     * a triple or a pair it takes ten a row.
      */
     private static final class Overlaps {
         final long[] values = new long[ROWS];
-        private final long[] triples = new long[TRIPLES];
-        private final long[] pairs = new long[PAIRS];
+        private final long[] sums = new long[TRIPLES + PAIRS];
+        private final int[] marks = new int[10];
         private final Slip slip;
 
         Overlaps(Slip slip) {
@@ -1138,55 +1142,59 @@ public final class SlipWeeks {
 
         /** Takes in the values, once they all stand. */
         void gather() {
-            Arrays.fill(triples, 0);
-            Arrays.fill(pairs, 0);
+            Arrays.fill(sums, 0);
             for (int p = 0; p < ROWS; p++) {
-                for (int i = 0; i < IN_A_ROW; i++) {
-                    int triple = without(slip.packed[p], i);
-                    triples[tripleAt(triple)] += values[p];
-                    for (int j = 0; j < i; j++) {
-                        pairs[pairAt(without(triple, j))] += values[p];
-                    }
+                mark(slip.packed[p]);
+                for (int i = 0; i < 10; i++) {
+                    sums[marks[i]] += values[p];
                 }
             }
         }
 
         /** The sum over the rows that have rank (2 to 4) numbers in common with the one at a place. */
         long ofRank(int rank, int place) {
-            if (!isPlace(place)) {
+            if (place < 0 || place >= ROWS) {
                 return 0;
             }
-            long byTriples = 0;
-            long byPairs = 0;
-            for (int i = 0; i < IN_A_ROW; i++) {
-                int triple = without(slip.packed[place], i);
-                byTriples += triples[tripleAt(triple)];
-                for (int j = 0; j < i; j++) {
-                    byPairs += pairs[pairAt(without(triple, j))];
-                }
-            }
-            // The row itself holds all four of its triples and six pairs; a row with three in common, three of the pairs.
             long four = values[place];
-            long three = byTriples - 4 * four;
-            long two = byPairs - 3 * three - 6 * four;
-            return rank == 4 ? four : rank == 3 ? three : two;
+            if (rank == 4) {
+                return four;
+            }
+            mark(slip.packed[place]);
+            // The row itself holds all four of its triples and six pairs; a row with three in common, three of the pairs.
+            long three = sums[marks[0]] + sums[marks[1]] + sums[marks[2]] + sums[marks[3]] - 4 * four;
+            if (rank == 3) {
+                return three;
+            }
+            long byPairs = 0;
+            for (int i = 4; i < 10; i++) {
+                byPairs += sums[marks[i]];
+            }
+            return byPairs - 3 * three - 6 * four;
         }
 
-        private static int without(int packed, int i) {
-            int lower = packed & (1 << 4 * i) - 1;
-            return lower | packed >> 4 * (i + 1) << 4 * i;
-        }
-
-        private static int pairAt(int packed) {
-            int high = packed >> 4 & 15;
-            int at = high * (high - 1) / 2 + (packed & 15);
-            return within(at, 0, PAIRS - 1) ? at : 0;
-        }
-
-        private static int tripleAt(int packed) {
-            int high = packed >> 8 & 15;
-            int at = high * (high - 1) * (high - 2) / 6 + pairAt(packed & 255);
-            return within(at, 0, TRIPLES - 1) ? at : 0;
+        /** Puts into marks where the sums of a row's four triples and six pairs stand. */
+        private void mark(int packed) {
+            int a = packed & 15;
+            int b = packed >> 4 & 15;
+            int c = packed >> 8 & 15;
+            int d = packed >> 12 & 15;
+            if (a >= b || b >= c || c >= d || d >= NUMBERS) {
+                return;
+            }
+            int pairsC = PAIRS_BELOW[c];
+            int pairsD = PAIRS_BELOW[d];
+            int ab = PAIRS_BELOW[b] + a;
+            marks[0] = TRIPLES_BELOW[c] + ab;
+            marks[1] = TRIPLES_BELOW[d] + ab;
+            marks[2] = TRIPLES_BELOW[d] + pairsC + a;
+            marks[3] = TRIPLES_BELOW[d] + pairsC + b;
+            marks[4] = TRIPLES + ab;
+            marks[5] = TRIPLES + pairsC + a;
+            marks[6] = TRIPLES + pairsC + b;
+            marks[7] = TRIPLES + pairsD + a;
+            marks[8] = TRIPLES + pairsD + b;
+            marks[9] = TRIPLES + pairsD + c;
         }
     }
 
@@ -1210,16 +1218,17 @@ public final class SlipWeeks {
 
         /** Worth of a row with a pot to which this week's IN is yet to come. */
         long worthOf(int place, int pot) {
-            if (!isPlace(place)) {
+            if (place < 0 || place >= ROWS) {
                 return 0;
             }
+            int row = slip.bits[place];
             long full = state.potWithIn(pot, crowd.total);
             long part4 = state.rankPart(4, full);
             long part3 = state.rankPart(3, full);
             long part2 = state.rankPart(2, full);
             long all = 0;
             for (int d = 0; d < ROWS; d++) {
-                int rank = Integer.bitCount(slip.bits[place] & slip.bits[d]);
+                int rank = Integer.bitCount(row & slip.bits[d]);
                 if (rank >= LEAST_RANK) {
                     long part = rank == 4 ? part4 : rank == 3 ? part3 : part2;
                     all += oneGets(part, crowd.winnersAt(rank, d), 1);
@@ -1242,7 +1251,9 @@ public final class SlipWeeks {
                 for (int d = 0; d < ROWS; d++) {
                     overlaps.values[d] = oneGets(part, crowd.winnersAt(rank, d), 1);
                 }
-                overlaps.gather();
+                if (rank < IN_A_ROW) {
+                    overlaps.gather();
+                }
                 for (int p = 0; p < ROWS; p++) {
                     sums[p] += overlaps.ofRank(rank, p);
                 }
@@ -1333,21 +1344,20 @@ public final class SlipWeeks {
 
         /** Behind m seekers: how many rows they took, or the crosses of the row that has the fewest. */
         int afterSeekers(int m, boolean rowsTaken) {
-            Arrays.fill(taken, 0);
+            System.arraycopy(crowd.crosses, 0, taken, 0, ROWS);
             int different = 0;
             for (int i = 0; i < m && i < SEEKERS_LIMIT; i++) {
                 int p = leastTaken();
-                different += taken[p] == 0 ? 1 : 0;
+                different += taken[p] == crowd.crosses[p] ? 1 : 0;
                 taken[p]++;
             }
-            int least = leastTaken();
-            return rowsTaken ? different : crowd.crosses[least] + taken[least];
+            return rowsTaken ? different : taken[leastTaken()];
         }
 
         private int leastTaken() {
             int least = 0;
             for (int p = 1; p < ROWS; p++) {
-                if (crowd.crosses[p] + taken[p] < crowd.crosses[least] + taken[least]) {
+                if (taken[p] < taken[least]) {
                     least = p;
                 }
             }

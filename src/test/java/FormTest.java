@@ -27,7 +27,9 @@ import java.nio.file.Files;
 import java.nio.file.Path;
 import java.util.ArrayDeque;
 import java.util.Deque;
+import java.util.Map;
 import java.util.Set;
+import java.util.TreeMap;
 import java.util.TreeSet;
 import javax.tools.JavaCompiler;
 import javax.tools.StandardJavaFileManager;
@@ -52,7 +54,9 @@ public final class FormTest {
         for (ImportTree one : unit.getImports()) {
             ok("import " + one.getQualifiedIdentifier(), one.getQualifiedIdentifier().toString().equals("java.util.Arrays"));
         }
-        new Rules(unit, Trees.instance(task).getSourcePositions()).scan(unit, null);
+        Rules rules = new Rules(unit, Trees.instance(task).getSourcePositions());
+        rules.scan(unit, null);
+        depths(rules.calls);
         face(Files.readString(Path.of("../shared/DOC.md")));
         signs(Files.readString(source.toPath()));
         DUE.end();
@@ -68,6 +72,26 @@ public final class FormTest {
                 ok("sign " + i + " of the source", false);
             }
         }
+    }
+
+    /** How many calls stand open at once at the most; a ring of calls (the liking's recursion) counts once each. */
+    private static void depths(Map<String, Set<String>> calls) {
+        for (String name : calls.keySet()) {
+            int deep = depth(calls, name, new TreeSet<>());
+            ok(name + " goes " + deep + " deep", deep <= 8);
+        }
+    }
+
+    private static int depth(Map<String, Set<String>> calls, String name, Set<String> open) {
+        int deepest = 0;
+        open.add(name);
+        for (String next : calls.getOrDefault(name, Set.of())) {
+            if (!open.contains(next)) {
+                deepest = Math.max(deepest, depth(calls, next, open));
+            }
+        }
+        open.remove(name);
+        return deepest + 1;
     }
 
     private static String shortName(String type) {
@@ -107,6 +131,8 @@ public final class FormTest {
         private final SourcePositions positions;
         private final Deque<String> inside = new ArrayDeque<>();
         private final Set<String> faceNames = new TreeSet<>();
+        private final Map<String, Set<String>> calls = new TreeMap<>();
+        private String method = "";
         private int classes;
 
         Rules(CompilationUnitTree unit, SourcePositions positions) {
@@ -171,11 +197,15 @@ public final class FormTest {
             if (inside.size() > 1) {
                 ok(name + " has no name of the face", !faceNames.contains(m.getName().toString()));
             }
+            method = m.getName().toString();
+            calls.putIfAbsent(method, new TreeSet<>());
             return super.visitMethod(m, v);
         }
 
         @Override
         public Void visitMethodInvocation(MethodInvocationTree call, Void v) {
+            String whole = call.getMethodSelect().toString();
+            calls.computeIfAbsent(method, k -> new TreeSet<>()).add(whole.substring(whole.lastIndexOf('.') + 1));
             if (call.getMethodSelect() instanceof MemberSelectTree) {
                 MemberSelectTree s = (MemberSelectTree) call.getMethodSelect();
                 String to = s.getExpression().toString();

@@ -97,6 +97,8 @@ public final class ImageTest {
         x.seed(5);
         int tape = x.wipe();
         Due.liking(x, "2*l");
+        // Asked here, so that what was worked out for it would show behind undo().
+        x.worth(0);
         DUE.is("the tape was empty or had two", tape == 0 || tape == 2 ? 1 : 0, 1);
     }
 

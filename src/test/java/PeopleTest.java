@@ -58,6 +58,15 @@ public final class PeopleTest {
         DUE.is("many(12, 1)", x.many(12, 1), Due.BEYOND);
         DUE.is("many(-1, 1)", x.many(-1, 1), Due.BEYOND);
         DUE.is("of(3, 1)", x.of(3, 1), 99999);
+        DUE.is("as(11, 3)", x.as(11, 3), 11);
+        DUE.is("likes(11, 494)", x.likes(11, 494), 1);
+        x.many(11, 99000);
+        DUE.is("crossed(11, 494)", x.crossed(11, 494), 200);
+        int all = 0;
+        for (int p = 0; p < 12; p++) {
+            all += x.crossed(p, 494);
+        }
+        DUE.is("crossed(-1, 494)", x.crossed(-1, 494), all);
     }
 
     private static void kinds() {
@@ -123,6 +132,7 @@ public final class PeopleTest {
         DUE.is("990 machines", x.crossed(0, 494), 2);
         x.people(7, 1);
         DUE.is("one that bought place 0", x.crossed(1, 0), 1);
+        DUE.is("beside the machines", x.crossed(-1, 0), 3);
         DUE.is("and no other", x.crossed(1, 1), 0);
         x.many(1, 0);
         DUE.is("none that likes none", x.crossed(1, 0), 0);

@@ -97,6 +97,21 @@ public final class WeeksTest {
         DUE.is("count(1)", x.count(1), 7);
         greatest();
         latest();
+        oneWinner();
+    }
+
+    private static void oneWinner() {
+        SlipWeeks x = new SlipWeeks();
+        x.rule(7, 1000);
+        x.buys(0, 1);
+        DUE.is("told(15)", x.told(15), 1);
+        book(x, 0, 15, 1, 0, 0, 600, 0, 0, 400);
+        DUE.is("told(23)", x.told(23), 0);
+        book(x, 1, 23, 0, 1, 0, 0, 120, 0, 280);
+        DUE.is("told(51)", x.told(51), 0);
+        book(x, 2, 51, 0, 0, 1, 0, 0, 28, 252);
+        DUE.is("told(113)", x.told(113), 0);
+        book(x, 3, 113, 0, 0, 0, 0, 0, 0, 252);
     }
 
     private static void book(SlipWeeks x, int week, int... want) {

@@ -73,15 +73,15 @@ public final class WorthTest {
         DUE.is("worth(0) taxed whole above free", x.worth(0), 40000 / 495);
         x.rule(6, 999999);
         DUE.is("worth(0) all free", x.worth(0), 100000 / 495);
-        // Of each draw the tax is cut: 168 times 7 above 6 at 99 hundredths is nothing.
+        // Of each draw the tax is cut: of 9, of which 8 are free, 99 hundredths of 1 are nothing.
         x.rule(2, 0);
         x.rule(4, 100);
-        x.rule(7, 7);
-        x.rule(6, 6);
+        x.rule(7, 9);
+        x.rule(6, 8);
         x.rule(5, 99);
-        DUE.is("worth(0), tax cut", x.worth(0), 168 * 7 / 495);
+        DUE.is("worth(0), tax cut", x.worth(0), 168 * 9 / 495);
         x.rule(5, 100);
-        DUE.is("worth(0), tax of one", x.worth(0), 168 * 6 / 495);
+        DUE.is("worth(0), tax of one", x.worth(0), 168 * 8 / 495);
         x.rule(5, 100);
         x.buys(0, 1);
         x.rule(7, 100);
@@ -104,6 +104,8 @@ public final class WorthTest {
             int w = x.worth(i);
             DUE.is("worth(" + i + ") against the best", w > most || w == most && i < p ? 1 : 0, 0);
         }
+        atTop(494, 8, 9, 10);
+        atTop(1, 0, 2, 3);
         x = new SlipWeeks();
         x.rule(7, 99999999);
         x.people(1, 90000);
@@ -113,9 +115,33 @@ public final class WorthTest {
         DUE.is("best is not 0", x.best(0) > 0 ? 1 : 0, 1);
     }
 
+    /** Rank 4 alone pays, and all rows but a few are crossed: of these the one that is crossed least is best. */
+    private static void atTop(int best, int... fewer) {
+        SlipWeeks x = new SlipWeeks();
+        x.rule(3, 0);
+        x.rule(4, 0);
+        x.rule(7, 99999999);
+        x.rule(1, 0);
+        x.people(3, 99000);
+        DUE.is("best(0) of like ones", x.best(0), 0);
+        DUE.is("best(1)", x.best(1), 99999999L * 60 / 100 / 201 / 495);
+        x.many(0, 495);
+        for (int p = 0; p < 12; p++) {
+            if (p != best) {
+                x.buys(p, 5);
+            }
+        }
+        for (int p : fewer) {
+            DUE.is("worth(" + p + ")", x.worth(p), 99999999L * 60 / 100 / (p < 12 ? 7 : 2) / 495);
+        }
+        DUE.is("best(0)", x.best(0), best < 12 ? best : 12);
+        DUE.is("best(1)", x.best(1), 99999999L * 60 / 100 / 2 / 495);
+    }
+
     private static void alone() {
         SlipWeeks x = new SlipWeeks();
         DUE.is("alone(0)", x.alone(0), 495);
+        DUE.is("alone(1)", x.alone(1), 0);
         x.buys(0, 1);
         x.buys(1, 1);
         x.buys(9, 1);
@@ -146,7 +172,7 @@ public final class WorthTest {
         x.people(5, 50000);
         x.rule(5, 20);
         x.rule(6, 3);
-        for (int place : new int[] {0, 200, 494}) {
+        for (int place : new int[] {0, 1, 2, 7, 33, 99, 200, 201, 333, 400, 491, 492, 493, 494}) {
             int pot = x.line(place);
             x.rule(7, pot);
             DUE.is("worth(" + place + ") on its line", x.worth(place) >= 99 ? 1 : 0, 1);
@@ -177,6 +203,14 @@ public final class WorthTest {
         DUE.is("line(3) with 19 others", x.line(3), 495 * 99 * 20 * 100);
         x.buys(3, 1);
         DUE.is("line(3) with 20 others", x.line(3), Due.NONE);
+        // The greatest pot gives just the price: 999999 by 101 and 495 is 20 and little more.
+        x.buys(3, 80);
+        x.rule(0, 20);
+        DUE.is("line(3) that only the greatest pots reach", x.line(3), 495 * 20 * 101 * 100);
+        x.rule(0, 19);
+        DUE.is("line(3) below it", x.line(3), 495 * 19 * 101 * 100);
+        x.rule(0, 21);
+        DUE.is("line(3) above it", x.line(3), Due.NONE);
     }
 
     private static void houses() {
@@ -207,11 +241,45 @@ public final class WorthTest {
         x.rule(3, 0);
         x.rule(4, 0);
         DUE.is("house(10) of rank 4 alone", x.house(10), 60000 * 10 / 495 - 70);
+        x.rule(7, 823);
+        x.rule(0, 1);
+        DUE.is("house(1) of 493 by 495", x.house(1), -1);
+        x.rule(2, 100);
+        x.rule(7, 494);
+        DUE.is("house(1) of 494 by 495", x.house(1), -1);
+        x.rule(7, 495);
+        DUE.is("house(1) of 495 by 495", x.house(1), 0);
+        x.rule(2, 60);
+        x.rule(7, 100000);
+        x.rule(0, 7);
         for (int i = 0; i < 40; i++) {
             x.buys(i, 3);
         }
         DUE.is("house(455), none shared", x.house(455), 60000L * 455 / 495 - 455 * 7);
         DUE.is("house(457), two of them shared by four", x.house(457), (60000L * 455 + 2 * 15000) / 495 - 457 * 7);
+        levels();
+    }
+
+    /** Rows of all of 1 to 41 crosses: a house takes them from the least on, whichever their places. */
+    private static void levels() {
+        SlipWeeks x = new SlipWeeks();
+        x.rule(1, 0);
+        x.rule(2, 100);
+        x.rule(3, 0);
+        x.rule(4, 0);
+        x.rule(7, 99999999);
+        x.people(3, 495);
+        int[] crosses = new int[40];
+        for (int i = 0; i < 40; i++) {
+            crosses[i] = (i * 7 + 3) % 40 + 1;
+            x.buys(i, crosses[i]);
+        }
+        long all = 455L * (99999999 / 2);
+        DUE.is("house(455)", x.house(455), all / 495 - 455);
+        for (int n = 1; n <= 40; n++) {
+            all += 99999999 / (n + 2);
+            DUE.is("house(" + (455 + n) + ")", x.house(455 + n), all / 495 - 455 - n);
+        }
     }
 
     private static void seekers() {
@@ -237,6 +305,31 @@ public final class WorthTest {
         DUE.is("seek(3, 1)", x.seek(3, 1), 2);
         DUE.is("shares(0)", x.shares(0), 399);
         DUE.is("shares(1)", x.shares(1), 400);
+        x.buys(0, 5);
+        DUE.is("seek(1, 0), the second is least", x.seek(1, 0), 400);
+        DUE.is("seek(200, 1), the first is not", x.seek(200, 1), 200);
+        rounds();
+    }
+
+    /** Three rows are left behind by all others: seekers fill them by turns. */
+    private static void rounds() {
+        SlipWeeks x = new SlipWeeks();
+        Due.liking(x, "(d-3?0:1)");
+        x.told(15);
+        x.people(0, 98800);
+        x.buys(0, 10);
+        DUE.is("crossed(-1, 0)", x.crossed(-1, 0), 10);
+        DUE.is("crossed(-1, 494)", x.crossed(-1, 494), 200);
+        DUE.is("seek(5, 0)", x.seek(5, 0), 15);
+        DUE.is("seek(5, 1)", x.seek(5, 1), 1);
+        Due.liking(x, "(d-3?0:(d-2?0:1))");
+        DUE.is("crossed(-1, 1)", x.crossed(-1, 1), 0);
+        // 33 rows have three or four in common with 0 1 2 3; the first of them has ten.
+        DUE.is("seek(32, 1)", x.seek(32, 1), 32);
+        DUE.is("seek(32, 0)", x.seek(32, 0), 1);
+        DUE.is("seek(31, 0)", x.seek(31, 0), 0);
+        DUE.is("seek(200, 1)", x.seek(200, 1), 32);
+        DUE.is("seek(200, 0)", x.seek(200, 0), 6);
     }
 
     private static void wrong() {
