@@ -26,11 +26,15 @@ import java.lang.reflect.Modifier;
 import java.nio.file.Files;
 import java.nio.file.Path;
 import java.util.ArrayDeque;
+import java.util.ArrayList;
 import java.util.Deque;
+import java.util.List;
 import java.util.Map;
 import java.util.Set;
 import java.util.TreeMap;
 import java.util.TreeSet;
+import java.util.regex.Matcher;
+import java.util.regex.Pattern;
 import javax.tools.JavaCompiler;
 import javax.tools.StandardJavaFileManager;
 import javax.tools.ToolProvider;
@@ -57,8 +61,11 @@ public final class FormTest {
         Rules rules = new Rules(unit, Trees.instance(task).getSourcePositions());
         rules.scan(unit, null);
         depths(rules.calls);
-        face(Files.readString(Path.of("../shared/DOC.md")));
-        signs(Files.readString(source.toPath()));
+        String doc = Files.readString(Path.of("../shared/DOC.md"));
+        String text = Files.readString(source.toPath());
+        face(doc);
+        headings(doc, text);
+        signs(text);
         DUE.end();
     }
 
@@ -124,6 +131,25 @@ public final class FormTest {
         ok("41 methods in the document", due.size() == 41);
         ok("the face is " + due + ", the class has " + got, due.equals(got));
         ok("no other field can be seen", SlipWeeks.class.getFields().length == 0);
+    }
+
+    /** The calls stand in the document's order, and ahead of them what the interface says there. */
+    private static void headings(String doc, String source) {
+        List<String> due = new ArrayList<>();
+        Matcher said = Pattern.compile("(?m)^Ahead of the calls (.*) the interface says: (.*)\\.$").matcher(doc);
+        while (said.find()) {
+            due.add(said.group(2));
+            for (String name : said.group(1).split(", ")) {
+                due.add(name.replace("`", ""));
+            }
+        }
+        List<String> got = new ArrayList<>();
+        Matcher line = Pattern.compile("(?m)^    (?:// (----.*)|public \\w+ (\\w+)\\(.*)$").matcher(source);
+        while (line.find()) {
+            got.add(line.group(1) != null ? line.group(1) : line.group(2));
+        }
+        ok("7 headings and 41 calls in the document", due.size() == 48);
+        ok("the document's order is " + due + ", the class has " + got, due.equals(got));
     }
 
     private static final class Rules extends TreeScanner<Void, Void> {
