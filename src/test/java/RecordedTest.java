@@ -3,8 +3,8 @@ import java.nio.file.Files;
 import java.nio.file.Path;
 
 /**
- * Runs whose answers a second model worked out, which was written from the document alone, apart from the class and
- * from PlainModel: it would show a change that is made to both of these alike.
+ * Runs whose answers a second model worked out, which shares no code with the class and PlainModel: they would show a
+ * change that is made to both of these alike.
  */
 public final class RecordedTest {
     private static final Path RUNS = Path.of("src/test/runs/second-reading.txt");
